@@ -360,6 +360,8 @@ public final class PromisesTest {
         faultOf("maybar;", 1, 0);
         faultOf("May;", 1, 0);
         faultOf("mayX;", 1, 0);
+        for (String letter : new String[] {"a", "z", "A", "Z"}) faultOf("may" + letter + ";", 1, 0);
+        for (String sign : new String[] {"`", "{", "@", "[", "_", "0", ":"}) faultOf("may" + sign + ";", 1, 3);
         faultOf("ma;", 1, 0);
         faultOf("lengths;", 1, 0);
         faultOf("may when lengths=1;", 1, 9);
@@ -662,6 +664,36 @@ public final class PromisesTest {
         x.weight(0, 1, 0);
         x.weight(1, 1, 0);
         due("without weights it is no worse", x.worst(0, 0), 0);
+        byOne();
+    }
+
+    /** A line with an odd number of middles in a square that alone has a weight. */
+    private static void byOne() {
+        OneThread x = new OneThread();
+        x.board(3);
+        x.pin(0, 0);
+        x.pin(3, 2);
+        x.winding(0, 0);
+        x.winding(0, 1);
+        for (int i = 0; i < 9; i++) x.weight(i % 3, i / 3, 0);
+        x.weight(0, 0, 1);
+        x.want(0, 0, 0, 3);
+        x.shade(0, 0);
+        due("no less without it", x.worst(0, 2), NONE);
+        x.shade(0, 1);
+        due("by 2", x.worst(0, 2), 2);
+        x.board(5);
+        x.pin(0, 0);
+        x.pin(5, 3);
+        due("middles", x.samples(0, 1, 1, 1), 3);
+        x.winding(0, 0);
+        x.winding(0, 1);
+        for (int i = 0; i < 25; i++) x.weight(i % 5, i / 5, 0);
+        x.weight(1, 1, 1);
+        x.want(0, 1, 1, 1);
+        due("by 1", x.worst(0, 2), 1);
+        x.want(0, 1, 1, 2);
+        due("by less than 0", x.worst(0, 2), NONE);
     }
 
     private static void lineAndClear() {
