@@ -36,6 +36,8 @@ public final class PromisesTest {
         wound();
         dark();
         samples();
+        allLines();
+        boardsInARow();
         far();
         next();
         greedy();
@@ -539,6 +541,66 @@ public final class PromisesTest {
         due("no pin", x.samples(-1, 0, 0, 0), NONE);
         due("no square", x.samples(0, 1, 3, 0), NONE);
         due("no square", x.samples(0, 1, 0, -1), NONE);
+    }
+
+    /** Every line of 24 pins has eight middles for each of its length, and no two lines share a place. */
+    private static void allLines() {
+        part = "15 samples of all lines";
+        for (int s = 4; s <= 8; s++) {
+            OneThread x = new OneThread();
+            x.board(s);
+            // the last pins far from one another, so that the last lines are long
+            for (int i = 0; i < 24; i++) x.pin(i * 5 % (s + 1), i * 7 / (s + 1) % (s + 1));
+            for (int i = 0; i < 24; i++) x.pin(i % (s + 1), i / (s + 1));
+            for (int round = 0; round < 2; round++) {
+                for (int b = 0; b < 24; b++) for (int a = 0; a < b; a++) allOf(x, a, b, s);
+            }
+        }
+    }
+
+    private static void allOf(OneThread x, int a, int b, int s) {
+        int p = x.look(20 + a);
+        int q = x.look(20 + b);
+        int length = Math.max(Math.abs(p % 10 - q % 10), Math.abs(p / 10 - q / 10));
+        int sum = 0;
+        for (int i = 0; i < s * s; i++) {
+            int many = 0;
+            for (int j = 0; j < 8 * length; j++) {
+                int n = 16 * length;
+                int mx = (p % 10 * n + (q % 10 - p % 10) * (2 * j + 1)) / n;
+                int my = (p / 10 * n + (q / 10 - p / 10) * (2 * j + 1)) / n;
+                if (Math.min(mx, s - 1) == i % s && Math.min(my, s - 1) == i / s) many++;
+            }
+            due("samples " + a + " " + b + " of S " + s, x.samples(a, b, i % s, i / s), many);
+            sum += x.samples(b, a, i % s, i / s);
+        }
+        due("all samples " + a + " " + b, sum, 8 * length);
+    }
+
+    /** What was measured on a board is nothing to the next one, where the same lines are shorter. */
+    private static void boardsInARow() {
+        part = "2 board, lines measured anew";
+        OneThread x = new OneThread();
+        x.board(8);
+        x.pin(0, 0);
+        x.pin(8, 0);
+        x.samples(0, 1, 0, 0);
+        yes("board", x.board(4));
+        x.pin(0, 0);
+        x.pin(1, 0);
+        due("samples", x.samples(0, 1, 0, 0), 8);
+        due("none where it went", x.samples(0, 1, 1, 0), 0);
+        x.winding(0, 0);
+        due("gain", x.next(0, 0, 1), -8);
+        x.winding(0, 1);
+        due("dark", x.dark(1, 0), 0);
+        due("worst", x.worst(0, 2), 8);
+        x.line(0, 1);
+        x.tell(1, 0, 0);
+        x.tell(0, 0, 8);
+        due("told back", x.back(0), 1);
+        due("which", x.back(1), 1);
+        due("drawn", x.drawn(1, 1, 1, 0), 0);
     }
 
     private static void far() {

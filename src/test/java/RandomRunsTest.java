@@ -56,7 +56,7 @@ public final class RandomRunsTest {
         told.add("seed " + seed);
         int s = 2 + random.nextInt(7);
         if (random.nextInt(5) > 0) due("board " + s, real.board(s), plain.board(s));
-        int pins = style == 0 ? 2 + random.nextInt(5) : 6 + random.nextInt(21);
+        int pins = style == 0 ? 2 + random.nextInt(5) : style == 5 ? 60 : 6 + random.nextInt(21);
         for (int i = 0; i < pins; i++) pin();
         if (random.nextBoolean()) picture();
         for (int i = 0; i < CALLS && calls < CALLS && !failed; i++) one();
@@ -180,7 +180,9 @@ public final class RandomRunsTest {
                 if (random.nextInt(8) == 0) pin();
                 break;
             case 23:
-                if (random.nextInt(30) == 0) due("board " + (x + 1), real.board(x + 1), plain.board(x + 1));
+                if (random.nextInt(30) > 0) break;
+                due("board " + (x + 1), real.board(x + 1), plain.board(x + 1));
+                for (int i = 0; i < 20; i++) pin();
                 break;
             case 24:
                 look();
