@@ -4,7 +4,8 @@ import java.util.Random;
 
 /** Long runs of calls, drawn by a fixed seed, on OneThread and on the plain model: the same answers. */
 public final class RandomRunsTest {
-    private static final int CALLS = 512;
+    /** 512 calls are promised; one step of a run makes 30 at most. */
+    private static final int CALLS = 512 - 30;
     private static int wrong = 0;
 
     private final Random random;
@@ -63,16 +64,16 @@ public final class RandomRunsTest {
     }
 
     private void pin() {
-        int x = below(real.look(0) + 1);
-        int y = below(real.look(0) + 1);
+        int x = below(plain.look(0) + 1);
+        int y = below(plain.look(0) + 1);
         due("pin " + x + " " + y, real.pin(x, y), plain.pin(x, y));
     }
 
     private void picture() {
         int p = random.nextInt(4);
         int high = 1 + random.nextInt(200);
-        for (int x = 0; x < real.look(0); x++) {
-            for (int y = 0; y < real.look(0); y++) {
+        for (int x = 0; x < plain.look(0); x++) {
+            for (int y = 0; y < plain.look(0); y++) {
                 int v = random.nextInt(high);
                 due("want " + p + " " + x + " " + y + " " + v, real.want(p, x, y, v), plain.want(p, x, y, v));
             }
@@ -80,8 +81,8 @@ public final class RandomRunsTest {
     }
 
     private void one() {
-        int side = real.look(0);
-        int pins = real.look(1);
+        int side = plain.look(0);
+        int pins = plain.look(1);
         int a = below(pins);
         int b = below(pins);
         int x = below(side);
@@ -107,7 +108,7 @@ public final class RandomRunsTest {
             }
             case 3: {
                 if (random.nextInt(4) > 0) break;
-                int n = below(Math.min(6, Math.max(0, real.wound(t, -1)) + 1));
+                int n = below(Math.min(6, Math.max(0, plain.wound(t, -1)) + 1));
                 due("rub " + t + " " + n, real.rub(t, n), plain.rub(t, n));
                 break;
             }
@@ -115,7 +116,7 @@ public final class RandomRunsTest {
                 if (random.nextInt(3) == 0) law(LawWriter.text(random));
                 break;
             case 5: {
-                int i = below(Math.max(0, real.wound(t, -1)));
+                int i = below(Math.max(0, plain.wound(t, -1)));
                 due("wound " + t + " " + i, real.wound(t, i), plain.wound(t, i));
                 break;
             }
@@ -191,7 +192,7 @@ public final class RandomRunsTest {
             case 26:
             case 27:
             case 28:
-                if (random.nextInt(8) > 0 && real.look(2) > 11 && style < 3) break;
+                if (random.nextInt(8) > 0 && plain.look(2) > 11 && style < 3) break;
                 due("line " + a + " " + b, real.line(a, b), plain.line(a, b));
                 break;
             default:
@@ -201,17 +202,17 @@ public final class RandomRunsTest {
 
     /** Tells the shades that some lines of the set really make, on some squares. */
     private void tellTruly() {
-        int side = real.look(0);
+        int side = plain.look(0);
         int lines = plain.look(2);
         if (lines > 12) return;
         OneThread other = new OneThread();
         other.board(side);
-        int pins = real.look(1);
-        for (int i = 0; i < pins; i++) other.pin(real.look(20 + i) % 10, real.look(20 + i) / 10);
+        int pins = plain.look(1);
+        for (int i = 0; i < pins; i++) other.pin(plain.look(20 + i) % 10, plain.look(20 + i) / 10);
         for (int i = 0; i < 4 && pins > 1; i++) {
             int a = random.nextInt(pins);
             int b = random.nextInt(pins);
-            if (real.line(a, b) != plain.line(a, b)) throw new IllegalStateException("line");
+            due("line " + a + " " + b, real.line(a, b), plain.line(a, b));
             other.rub(0, other.wound(0, -1));
             other.winding(0, a);
             other.winding(0, b);
