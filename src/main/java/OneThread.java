@@ -1333,71 +1333,72 @@ public final class OneThread {
             step();
             if (token == WHEN) {
                 step();
-                readAny(0);
+                readCondition(0);
             }
             demand(';');
             draft.ends[draft.lines] = codes;
             draft.lines++;
         }
 
-        /** B of the document; open: how many brackets and nots are open round it. */
-        private void readAny(int open) {
-            readAll(open);
-            for (int i = 0; i <= MOST_BYTES && token == OR; i++) {
-                step();
-                readAll(open);
-                emit(-OR);
-            }
-        }
-
-        /** A of the document. */
-        private void readAll(int open) {
+        /**
+         * B and A of the document: or waits until all that and joins behind it is whole; open: how
+         * many brackets and nots are open round it.
+         */
+        private void readCondition(int open) {
+            boolean waiting = false;
             readOne(open);
-            for (int i = 0; i <= MOST_BYTES && token == AND; i++) {
-                step();
-                readOne(open);
-                emit(-AND);
+            for (int i = 0; i <= MOST_BYTES; i++) {
+                if (token == AND) {
+                    step();
+                    readOne(open);
+                    emit(-AND);
+                } else if (token == OR) {
+                    step();
+                    if (waiting) {
+                        emit(-OR);
+                    }
+                    waiting = true;
+                    readOne(open);
+                } else {
+                    break;
+                }
+            }
+            if (waiting) {
+                emit(-OR);
             }
         }
 
         /** C of the document. */
         private void readOne(int open) {
-            if (token != NOT && token != '(') {
-                readComparison();
-            } else if (open >= MOST_OPEN) {
+            int first = token;
+            if ((first == NOT || first == '(') && open >= MOST_OPEN) {
                 refuse(TOO_MANY);
-            } else if (token == NOT) {
+            } else if (first == NOT) {
                 step();
                 readOne(open + 1);
                 emit(-NOT);
-            } else {
+            } else if (first == '(') {
                 step();
-                readAny(open + 1);
+                readCondition(open + 1);
                 demand(')');
-            }
-        }
-
-        private void readComparison() {
-            readSum();
-            int sign = token;
-            if (sign == '<' || sign == '=' || sign == '>') {
-                step();
+            } else {
+                readSum();
+                int sign = token;
+                demand(sign == '<' || sign == '>' ? sign : '=');
                 readSum();
                 emit(-sign);
-            } else {
-                refuse(MISPLACED);
             }
         }
 
         /** E and T of the document: + or - waits until the product behind it is whole. */
         private void readSum() {
             int waiting = 0;
-            readOperand();
+            readOperand(0);
             for (int i = 0; i <= MOST_BYTES; i++) {
                 int sign = token;
                 if (sign == '*' || sign == '/') {
                     step();
-                    readFactor(sign);
+                    readOperand(sign);
                     emit(-sign);
                 } else if (sign == '+' || sign == '-') {
                     step();
@@ -1405,7 +1406,7 @@ public final class OneThread {
                         emit(-waiting);
                     }
                     waiting = sign;
-                    readOperand();
+                    readOperand(sign);
                 } else {
                     break;
                 }
@@ -1415,20 +1416,15 @@ public final class OneThread {
             }
         }
 
-        /** Behind / a number alone may stand, and not 0. */
-        private void readFactor(int sign) {
-            if (sign == '*' || token == NUMBER && values[at] != 0) {
-                readOperand();
-            } else {
-                refuse(token == NUMBER ? BY_ZERO : MISPLACED);
-            }
-        }
-
-        private void readOperand() {
-            if (token == NUMBER) {
+        /** U of the document; behind / a number alone may stand, and not 0. */
+        private void readOperand(int sign) {
+            boolean parts = sign == '/';
+            if (parts && token == NUMBER && values[at] == 0) {
+                refuse(BY_ZERO);
+            } else if (token == NUMBER) {
                 emit(values[at]);
                 step();
-            } else if (token >= FIRST_FACT && token < KEYWORDS) {
+            } else if (!parts && token >= FIRST_FACT && token < KEYWORDS) {
                 emit(Law.FACT + token - FIRST_FACT);
                 step();
             } else {
