@@ -100,6 +100,23 @@ final class LawEdges {
         so("1=2 or 1=2 or 1=2 or 1=1", true);
         so("1=1 or 1=1 and 1=2", true);
         so("1=2 and 1=1 or 1=1", true);
+        for (int chain = 0; chain < 128; chain++) joined(chain);
+    }
+
+    /** Four clauses, so or not, and three joints, each and or or: so if all between two ors are. */
+    private static void joined(int chain) {
+        StringBuilder text = new StringBuilder();
+        boolean any = false;
+        boolean all = true;
+        for (int i = 0; i < 4; i++) {
+            boolean or = i > 0 && (chain >> 3 + i & 1) == 1;
+            boolean clause = (chain >> i & 1) == 1;
+            if (i > 0) text.append(or ? " or " : " and ");
+            text.append(clause ? "1=1" : "1=2");
+            any |= or && all;
+            all = clause && (or || all);
+        }
+        so(text.toString(), any || all);
     }
 
     private static void ands() {
